@@ -481,6 +481,7 @@ public final class SaltFarm {
             this.had = had;
         }
 
+        // HAD, BROUGHT, SOLD and COUNTED are at most 1,000,000,000 each, so an int holds what comes of them.
         int missingThisYear() {
             return had + brought - sold - counted;
         }

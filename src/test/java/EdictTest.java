@@ -149,6 +149,7 @@ public final class EdictTest {
         CHECK.promise("9, 10 NAMES");
         fault("price is foo", 2, 9);
         fault("price is abcdefgh", 2, 9);
+        fault("price is zaz", 2, 9);
         fault("price is years", 2, 9);
         fault("price is yea", 2, 9);
         fault("price is 1+foo !", 2, 11);
@@ -347,6 +348,9 @@ public final class EdictTest {
         CHECK.due("price(0, 2)", farm.price(0, 2, false), 0);
         CHECK.due("price(0, 3)", farm.price(0, 3, false), 2);
         CHECK.due("duty(0, 1)", farm.price(0, 1, true), 0);
+        Check.tell(farm, 0, 0, "price when old=0 is 900;price is old-450;duty when old=0 is 30");
+        CHECK.due("duty(0, 0), old in year 0", farm.price(0, 0, true), 30);
+        CHECK.due("price(0, 2)", farm.price(0, 2, false), 0);
         Check.tell(farm, 0, 2, "price is old/2;duty when old<5 is 5;duty is 6");
         CHECK.due("price(0, 2)", farm.price(0, 2, false), 225);
         CHECK.due("price(0, 3)", farm.price(0, 3, false), 227);

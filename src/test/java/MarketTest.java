@@ -9,6 +9,7 @@ public final class MarketTest {
         money();
         thisYear();
         ways();
+        atOnce();
         best();
         bestTies();
         CHECK.end();
@@ -188,6 +189,41 @@ public final class MarketTest {
         CHECK.promise("20, 21");
         CHECK.due("wayAt(0, 0)", farm.wayAt(0, 0), 3);
         CHECK.due("wayAt(0, 1)", farm.wayAt(0, 1), 0);
+    }
+
+    /** Each answer is by what holds now, with no other call between a change and it. */
+    private static void atOnce() {
+        SaltFarm farm = farmWith(90, 10);
+        farm.border(0, 1, 5);
+        for (int round = 0; round < 2; round++) {
+            CHECK.promise("13 to 21 at once, round " + round);
+            farm.weight(10);
+            int want = change(farm, round, 9) ? 1 : 0;
+            CHECK.due("lost()", farm.lost(), want * 4000);
+            want = change(farm, round, 0) ? 1 : 0;
+            CHECK.due("way(0)", farm.way(0), want);
+            want = change(farm, round, 9) ? 1 : 0;
+            CHECK.due("wayAt(0, 0)", farm.wayAt(0, 0), want - 1);
+            want = change(farm, round, 0) ? 1 : 0;
+            CHECK.due("carried(0)", farm.carried(0), want * 50);
+            want = change(farm, round, 9) ? 1 : 0;
+            CHECK.due("crown()", farm.crown(), want == 1 ? 1000 : 5000);
+            want = change(farm, round, 0) ? 1 : 0;
+            CHECK.due("taken(1)", farm.taken(1), 500 + want * 500);
+            want = change(farm, round, 9) ? 1 : 0;
+            CHECK.due("source(0)", farm.source(0), want);
+            want = change(farm, round, 0) ? 1 : 0;
+            CHECK.due("cheap(0)", farm.cheap(0), want == 1 ? 15 : 90);
+            want = change(farm, round, 9) ? 1 : 0;
+            CHECK.due("brought(1, 0)", farm.brought(1, 0), want == 1 ? 15 : 105);
+        }
+    }
+
+    /** Lays guards, the other way round in an odd round; true if salt is carried then. */
+    private static boolean change(SaltFarm farm, int round, int guards) {
+        int laid = round == 0 ? guards : 9 - guards;
+        farm.guard(0, laid);
+        return laid == 0;
     }
 
     private static void best() {

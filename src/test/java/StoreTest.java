@@ -148,6 +148,12 @@ public final class StoreTest {
         count4(farm, 0, 90, 90, 89);
         farm.pass();
         CHECK.due("worst()", farm.worst(), 0);
+        farm = new SaltFarm();
+        farm.province(1, 1);
+        farm.store(0, 5);
+        farm.counted(0, 4);
+        farm.pass();
+        CHECK.due("worst() with one pound", farm.worst(), 0);
     }
 
     private static void count4(SaltFarm farm, int a, int b, int c, int d) {
