@@ -1132,7 +1132,7 @@ public final class SaltFarm {
             return pounds;
         }
 
-        /** At each step the least border that keeps to the least cost, as the document breaks ties from the source on. */
+        /** At each step the least border that keeps to the least cost: ties are broken from the source on. */
         void trace(int province) {
             wayLength = 0;
             int at = sourceOf(province);

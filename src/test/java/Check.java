@@ -1,11 +1,36 @@
+import java.io.IOException;
+import java.nio.file.Files;
+import java.nio.file.Path;
+
 /** Counts wrong answers, and tells edicts as texts. */
 final class Check {
+    private static final Path DOCUMENT = Path.of("../shared/DOC.md");
+
     private int wrong = 0;
     private int asked = 0;
     private String promise = "";
+    private String document = null;
 
     void promise(String name) {
         promise = name;
+    }
+
+    /** What follows tests this sentence; it is looked up, so that the tests and the document stay together. */
+    void sentence(String quote) {
+        promise = "'" + quote + "'";
+        due("the document has this sentence", document().contains(quote), true);
+    }
+
+    private String document() {
+        if (document == null) {
+            try {
+                document = Files.readString(DOCUMENT).replaceAll("\\s+", " ");
+            } catch (IOException e) {
+                document = "";
+                System.out.println("no document at " + DOCUMENT);
+            }
+        }
+        return document;
     }
 
     void due(String call, long got, long want) {
@@ -24,6 +49,19 @@ final class Check {
     void refused(SaltFarm farm, String call, long got, long want, int trouble) {
         due(call, got, want);
         due(call + " trouble()", farm.trouble(), trouble);
+    }
+
+    void refused(SaltFarm farm, String call, boolean got, boolean want, int trouble) {
+        refused(farm, call, got ? 1 : 0, want ? 1 : 0, trouble);
+    }
+
+    /** A call that may be refused and wasn't. */
+    void granted(SaltFarm farm, String call, long got, long want) {
+        refused(farm, call, got, want, 0);
+    }
+
+    void granted(SaltFarm farm, String call, boolean got) {
+        refused(farm, call, got, true, 0);
     }
 
     void end() {
