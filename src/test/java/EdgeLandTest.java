@@ -25,6 +25,7 @@ public final class EdgeLandTest {
         guardRefusals();
         guardWorth();
         weight();
+        lastCall();
         CHECK.end();
     }
 
@@ -393,5 +394,17 @@ public final class EdgeLandTest {
         CHECK.due("brought(0, 1)", farm.brought(0, 1), 1);
         CHECK.refused(farm, "weight(201)", farm.weight(201), false, 2);
         CHECK.due("brought(0, 1) stays", farm.brought(0, 1), 1);
+    }
+
+    private static void lastCall() {
+        CHECK.sentence("An object is used for at most 512 calls after it has been made");
+        SaltFarm farm = new SaltFarm();
+        CHECK.due("call 1", farm.province(1, 1), 0);
+        CHECK.due("call 2", farm.province(1, 1), 1);
+        CHECK.due("call 3", farm.border(0, 1, 1), 0);
+        for (int call = 4; call < 512; call++) {
+            CHECK.due("call " + call, farm.guard(0, call % 10), true);
+        }
+        CHECK.due("call 512", farm.brought(0, 1), 11);
     }
 }
